@@ -58,6 +58,8 @@ public final class ReadQoiTest {
         Check.taken("a moved colour's place", QOI, file(3, 1, 64, 255, 1, 1, 1, 1,
             (3 * 254 + 5 * 254 + 7 * 254 + 11 * 255) % 64), 3, 0xFEFEFEFF, 0x01010101, 0xFEFEFEFF);
         Check.refused("the same place twice", QOI, file(2, 1, 5, 5), 4, 15);
+        Check.refused("place 0 twice", QOI, file(2, 1, 0, 0), 4, 15);
+        Check.refused("place 63 twice", QOI, file(2, 1, 63, 63), 4, 15);
         Check.refused("the same place twice, later", QOI, file(4, 1, 192, 53, 53, 192), 4, 16);
         Check.taken("the same place with another chunk between", QOI, file(3, 1, 5, 192, 5), 3, 0, 0, 0);
         Check.taken("two places", QOI, file(2, 1, 5, 6), 2, 0, 0);

@@ -12,6 +12,7 @@ public final class WriteTest {
         refusals();
         qoi();
         pnm();
+        sizesInTexts();
         bmp();
         tga();
         pcx();
@@ -162,6 +163,26 @@ public final class WriteTest {
         written(4, Bytes.of("P4\n8 1\n\377"), 8, B, B, B, B, B, B, B, B);
         written(5, Bytes.of("P5\n3 1\n255\n\000\377\011"), 3, B, W, 0x090909FF);
         written(6, Bytes.of("P6\n2 1\n255\n\001\002\003\310\300\277"), 2, R, G);
+    }
+
+    private static void sizesInTexts() {
+        for (int side : new int[] {1, 9, 10, 99, 100, 101, 999, 1000, 1001, 1999, 2000, 2998, 3999, 4000, 4095, 4096}) {
+            RasterMint x = new RasterMint();
+            String head = "P4\n" + side + " 1\n";
+            x.make(0, side, 1, W);
+            Check.due("P4 of " + side + " x 1", x.write(0, 4), head.length() + (side + 7) / 8);
+            Check.due("P4 of " + side + " x 1", new String(Check.output(x), 0, head.length()).equals(head), true);
+            head = "P5\n1 " + side + "\n255\n";
+            x.make(0, 1, side, W);
+            Check.due("P5 of 1 x " + side, x.write(0, 5), head.length() + side);
+            Check.due("P5 of 1 x " + side, new String(Check.output(x), 0, head.length()).equals(head), true);
+        }
+        int[] grays = spread(256, B, 0x01010100);
+        StringBuilder text = new StringBuilder("P2\n256 1\n255\n");
+        for (int v = 0; v < 256; v++) {
+            text.append(v).append('\n');
+        }
+        written(2, Bytes.of(text.toString()), 256, grays);
     }
 
     private static Bytes bmpOf(int width, int height, int bits, int compression, int used, int size) {
