@@ -104,6 +104,39 @@ final class Check {
         }
     }
 
+    /** Each value of the byte at a place: those listed are read with 0, each other one is refused. */
+    static void eachValue(String name, int family, byte[] file, int place, int fault, int where, int... taken) {
+        for (int v = 0; v < 256; v++) {
+            byte[] changed = Bytes.with(file, place, v);
+            boolean can = false;
+            for (int one : taken) {
+                can |= one == v;
+            }
+            if (can) {
+                RasterMint x = new RasterMint();
+                tape(x, changed);
+                due(name + " " + v + ": read", x.read(family, 0), 0);
+                due(name + " " + v + ": place", x.place(), -1);
+            } else {
+                refused(name + " " + v, family, changed, fault, where);
+            }
+        }
+    }
+
+    /** The file must be read, and give a raster of this size; the first and the last pixel are asked. */
+    static void sized(String name, int family, byte[] file, int width, int height, int v, int last) {
+        RasterMint x = new RasterMint();
+        tape(x, file);
+        due(name + ": read", x.read(family, 2), 0);
+        due(name + ": place", x.place(), -1);
+        due(name + ": width", x.raster(2, 0), width);
+        due(name + ": height", x.raster(2, 1), height);
+        if (x.raster(2, 0) == width && x.raster(2, 1) == height) {
+            due(name + ": the first pixel", x.pixel(2, 0, 0), v);
+            due(name + ": the last pixel", x.pixel(2, width - 1, height - 1), last);
+        }
+    }
+
     /** The file must be read, and give a raster of this WIDTH with these pixels. */
     static void taken(String name, int family, byte[] file, int width, int... pixels) {
         RasterMint x = new RasterMint();
