@@ -32,20 +32,20 @@ public final class EdgeBmpTest {
         Check.finish("EdgeBmpTest");
     }
 
-    private static int colour(int i) {
-        return (48 + 3 * i & 255) << 24 | (32 + 2 * i & 255) << 16 | (16 + i & 255) << 8 | 255;
+    private static byte[] file(int width, int height, int bits, int compression, int used, int... data) {
+        return MadeFiles.bmp(width, height, bits, compression, used, data);
     }
 
-    /** A file whose n, OFFSET and SIZE are right; its colours are those of colour(). */
-    private static byte[] file(int width, int height, int bits, int compression, int used, int... data) {
-        int colours = bits > 8 ? 0 : used == 0 ? 1 << bits : used;
-        int offset = 54 + 4 * colours;
-        Bytes out = new Bytes().text("BM").low4(offset + data.length, 0, offset, 40, width, height).low2(1, bits)
-            .low4(compression, data.length, 5, 6, used, 7);
-        for (int i = 0; i < colours; i++) {
-            out.add(16 + i, 32 + 2 * i, 48 + 3 * i, 99);
-        }
-        return out.add(data).file();
+    private static int colour(int i) {
+        return MadeFiles.bmpColour(i);
+    }
+
+    private static int[] repeat(int many, int v) {
+        return MadeFiles.repeat(many, v);
+    }
+
+    private static int[] joined(int[]... parts) {
+        return MadeFiles.joined(parts);
     }
 
     private static byte[] with4(byte[] file, int place, int v) {
@@ -54,22 +54,6 @@ public final class EdgeBmpTest {
 
     private static byte[] cut(byte[] file, int n) {
         return java.util.Arrays.copyOf(file, n);
-    }
-
-    private static int[] repeat(int many, int v) {
-        int[] all = new int[many];
-        java.util.Arrays.fill(all, v);
-        return all;
-    }
-
-    private static int[] joined(int[]... parts) {
-        int[] all = new int[0];
-        for (int[] part : parts) {
-            int at = all.length;
-            all = java.util.Arrays.copyOf(all, at + part.length);
-            System.arraycopy(part, 0, all, at, part.length);
-        }
-        return all;
     }
 
     private static void taken(String name, byte[] file, int width, int... pixels) {

@@ -28,33 +28,24 @@ public final class EdgePcxTest {
         Check.finish("EdgePcxTest");
     }
 
-    /** A head with sixteen colours 3 * i, 3 * i + 1, 3 * i + 2. */
     private static Bytes head(int version, int bits, int planes, int step, int width, int height) {
-        return laid(version, bits, planes, step, 5, 7, 5 + width - 1, 7 + height - 1);
+        return MadeFiles.pcx(version, bits, planes, step, width, height);
     }
 
     private static Bytes laid(int version, int bits, int planes, int step, int... sides) {
-        Bytes out = new Bytes().add(10, version, 1, bits).low2(sides).low2(1, 2);
-        for (int i = 0; i < 48; i++) {
-            out.add(i);
-        }
-        return out.add(99, planes).low2(step).times(60, 98);
-    }
-
-    private static Bytes tabled(Bytes out) {
-        out.add(12);
-        for (int i = 0; i < 256; i++) {
-            out.add(i, 255 - i, i / 2);
-        }
-        return out;
-    }
-
-    private static int entry(int i) {
-        return i << 24 | 255 - i << 16 | i / 2 << 8 | 255;
+        return MadeFiles.pcxLaid(version, bits, planes, step, sides);
     }
 
     private static int sixteenth(int i) {
-        return 3 * i << 24 | 3 * i + 1 << 16 | 3 * i + 2 << 8 | 255;
+        return MadeFiles.pcxColour(i);
+    }
+
+    private static Bytes tabled(Bytes out) {
+        return MadeFiles.pcxTabled(out);
+    }
+
+    private static int entry(int i) {
+        return MadeFiles.pcxEntry(i);
     }
 
     private static void taken(String name, Bytes file, int width, int... pixels) {

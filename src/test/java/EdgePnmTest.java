@@ -30,7 +30,7 @@ public final class EdgePnmTest {
     }
 
     private static int gray(int v) {
-        return v * 0x01010100 + 255;
+        return MadeFiles.gray(v);
     }
 
     private static void taken(String text, int width, int... pixels) {

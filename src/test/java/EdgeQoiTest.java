@@ -24,8 +24,12 @@ public final class EdgeQoiTest {
         Check.finish("EdgeQoiTest");
     }
 
+    private static int rgba(int red, int green, int blue, int alpha) {
+        return MadeFiles.rgba(red, green, blue, alpha);
+    }
+
     private static Bytes head(int width, int height) {
-        return new Bytes().text("qoif").high4(width, height).add(3, 0);
+        return MadeFiles.qoi(width, height, 3);
     }
 
     private static byte[] file(int width, int height, int... chunks) {
@@ -38,10 +42,6 @@ public final class EdgeQoiTest {
 
     private static int placeOf(int red, int green, int blue, int alpha) {
         return (3 * red + 5 * green + 7 * blue + 11 * alpha) % 64;
-    }
-
-    private static int rgba(int red, int green, int blue, int alpha) {
-        return (red & 255) << 24 | (green & 255) << 16 | (blue & 255) << 8 | alpha & 255;
     }
 
     private static void refused(String name, byte[] file, int fault, int place) {

@@ -37,6 +37,18 @@ public final class EdgeWriteTest {
         Check.finish("EdgeWriteTest");
     }
 
+    private static int rgba(int red, int green, int blue, int alpha) {
+        return MadeFiles.rgba(red, green, blue, alpha);
+    }
+
+    private static int[] repeat(int many, int v) {
+        return MadeFiles.repeat(many, v);
+    }
+
+    private static int[] joined(int[]... parts) {
+        return MadeFiles.joined(parts);
+    }
+
     private static RasterMint shelved(int width, int... pixels) {
         RasterMint x = new RasterMint();
         x.make(0, width, pixels.length / width, pixels[0]);
@@ -62,22 +74,6 @@ public final class EdgeWriteTest {
         }
     }
 
-    private static int[] repeat(int many, int v) {
-        int[] all = new int[many];
-        Arrays.fill(all, v);
-        return all;
-    }
-
-    private static int[] joined(int[]... parts) {
-        int[] all = new int[0];
-        for (int[] part : parts) {
-            int at = all.length;
-            all = Arrays.copyOf(all, at + part.length);
-            System.arraycopy(part, 0, all, at, part.length);
-        }
-        return all;
-    }
-
     private static int[] grays(int many) {
         int[] all = new int[many];
         for (int k = 0; k < many; k++) {
@@ -86,12 +82,8 @@ public final class EdgeWriteTest {
         return all;
     }
 
-    private static int rgba(int red, int green, int blue, int alpha) {
-        return (red & 255) << 24 | (green & 255) << 16 | (blue & 255) << 8 | alpha & 255;
-    }
-
     private static Bytes qoi(int width, int height, int channels, int... chunks) {
-        return new Bytes().text("qoif").high4(width, height).add(channels, 0).add(chunks).times(7, 0).add(1);
+        return MadeFiles.qoi(width, height, channels).add(chunks).times(7, 0).add(1);
     }
 
     /** "of as many pixels like P as there are from here on (62 at most) a run". */

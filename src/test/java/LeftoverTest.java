@@ -1,7 +1,10 @@
 import java.util.ArrayList;
 import java.util.List;
 
-/** "a call that .. answers a fault changes nothing but what is told there": nothing of a refused file is left in the next. */
+/**
+ * "a call that .. answers a fault changes nothing but what is told there": nothing of a refused file is left in the next
+ * one, and nothing of a larger raster in a smaller one.
+ */
 public final class LeftoverTest {
     private static final int[] FAMILIES = {0, 1, 2, 3, 4};
 
@@ -24,7 +27,61 @@ public final class LeftoverTest {
                 next.behind(before, false);
             }
         }
+        smallerRasters();
         Check.finish("LeftoverTest");
+    }
+
+    /** A small raster behind one of 4096 pixels, all unlike and with alphas, is as on a new object. */
+    private static void smallerRasters() {
+        int[][] sizes = {{1, 1}, {2, 1}, {1, 2}, {3, 3}, {63, 64}, {255, 1}};
+        int[][] paints = {{0x000000FF, 0}, {-1, 0}, {0x707070FF, 0}, {0x102030FF, 0}, {0x000000FF, 0x01010100}, {0x05, 256}};
+        for (int[] size : sizes) {
+            for (int[] paint : paints) {
+                for (int way = 0; way < 3; way++) {
+                    smaller(size, paint, way);
+                }
+            }
+        }
+    }
+
+    private static void paint(RasterMint x, int shelf, int[] size, int[] paint) {
+        x.make(shelf, size[0], size[1], 0);
+        x.sweep(shelf, 0, 0, 4096, paint[0], paint[1]);
+    }
+
+    private static void smaller(int[] size, int[] paint, int way) {
+        RasterMint fresh = new RasterMint();
+        paint(fresh, 0, size, paint);
+        RasterMint x = new RasterMint();
+        paint(x, 0, new int[] {64, 64}, new int[] {0x01020304, 0x01030507});
+        x.write(0, 10);
+        x.copy(0, 2);
+        Check.due("all colours", x.raster(0, 2), 4096);
+        if (way == 0) {
+            paint(x, 0, size, paint);
+        } else {
+            paint(x, 1, size, paint);
+            if (way == 1) {
+                x.copy(1, 0);
+            } else {
+                x.write(1, 10);
+                x.again();
+                x.read(3, 0);
+            }
+        }
+        String name = size[0] + " x " + size[1] + " of " + paint[0] + " by " + paint[1] + ", way " + way;
+        for (int what = 0; what < 6; what++) {
+            Check.due(name + ": raster(0, " + what + ")", x.raster(0, what), fresh.raster(0, what));
+        }
+        for (int form = 0; form < 18; form++) {
+            Check.due(name + ": all colours again", x.raster(2, 2), 4096);
+            Check.due(name + ": holds " + form, x.holds(0, form), fresh.holds(0, form));
+            Check.due(name + ": write " + form, x.write(0, form), fresh.write(0, form));
+            if (fresh.holds(0, form)) {
+                byte[] due = Check.output(fresh);
+                Check.due(name + ": written " + form, java.util.Arrays.equals(Check.output(x), due), true);
+            }
+        }
     }
 
     private static List<LeftoverTest> goodFiles() {

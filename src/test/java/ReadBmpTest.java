@@ -18,16 +18,8 @@ public final class ReadBmpTest {
         Check.finish("ReadBmpTest");
     }
 
-    /** A file with colours 48 + 3 * i, 32 + 2 * i, 16 + i, the fourth byte of each 99. */
     private static byte[] file(int width, int height, int bits, int compression, int used, int... data) {
-        int colours = bits > 8 ? 0 : used == 0 ? 1 << bits : used;
-        int offset = 54 + 4 * colours;
-        Bytes out = new Bytes().text("BM").low4(offset + data.length, 0, offset, 40, width, height).low2(1, bits)
-            .low4(compression, data.length, 5, 6, used, 7);
-        for (int i = 0; i < colours; i++) {
-            out.add(16 + i, 32 + 2 * i, 48 + 3 * i, 99);
-        }
-        return out.add(data).file();
+        return MadeFiles.bmp(width, height, bits, compression, used, data);
     }
 
     private static void taken(String name, byte[] file, int width, int... pixels) {

@@ -15,29 +15,20 @@ public final class ReadPcxTest {
         Check.finish("ReadPcxTest");
     }
 
-    /** A head with sixteen colours 3 * i, 3 * i + 1, 3 * i + 2. */
     private static Bytes head(int version, int bits, int planes, int step, int width, int height) {
-        Bytes out = new Bytes().add(10, version, 1, bits).low2(5, 7, 5 + width - 1, 7 + height - 1, 1, 2);
-        for (int i = 0; i < 48; i++) {
-            out.add(i);
-        }
-        return out.add(99, planes).low2(step).times(60, 98);
+        return MadeFiles.pcx(version, bits, planes, step, width, height);
     }
 
     private static int sixteenth(int i) {
-        return 3 * i << 24 | 3 * i + 1 << 16 | 3 * i + 2 << 8 | 255;
+        return MadeFiles.pcxColour(i);
     }
 
-    private static Bytes withTable(Bytes out) {
-        out.add(12);
-        for (int i = 0; i < 256; i++) {
-            out.add(i, 255 - i, i / 2);
-        }
-        return out;
+    private static Bytes tabled(Bytes out) {
+        return MadeFiles.pcxTabled(out);
     }
 
-    private static int tabled(int i) {
-        return i << 24 | 255 - i << 16 | i / 2 << 8 | 255;
+    private static int entry(int i) {
+        return MadeFiles.pcxEntry(i);
     }
 
     private static void taken(String name, Bytes file, int width, int... pixels) {
@@ -65,15 +56,15 @@ public final class ReadPcxTest {
     }
 
     private static void table() {
-        Bytes file = withTable(head(5, 8, 1, 2, 2, 2).add(0, 7, 193, 255, 100));
-        taken("256 colours", file, 2, tabled(0), tabled(7), tabled(255), tabled(100));
+        Bytes file = tabled(head(5, 8, 1, 2, 2, 2).add(0, 7, 193, 255, 100));
+        taken("256 colours", file, 2, entry(0), entry(7), entry(255), entry(100));
         Bytes bare = head(5, 8, 1, 2, 1, 1).add(0, 0);
         refused("no table", bare, 1, 130);
         refused("another mark", new Bytes().add(bare.file()).add(13).times(768, 0), 2, 130);
         refused("another mark, cut", new Bytes().add(bare.file()).add(11), 2, 130);
         refused("a table cut", new Bytes().add(bare.file()).add(12).times(767, 0), 1, 898);
-        refused("a byte behind the table", withTable(head(5, 8, 1, 2, 1, 1).add(0, 0)).add(12), 5, 899);
-        refused("a table where none is", withTable(head(5, 8, 3, 2, 1, 1).add(198, 0)), 5, 130);
+        refused("a byte behind the table", tabled(head(5, 8, 1, 2, 1, 1).add(0, 0)).add(12), 5, 899);
+        refused("a table where none is", tabled(head(5, 8, 3, 2, 1, 1).add(198, 0)), 5, 130);
         refused("a byte behind", head(0, 1, 1, 2, 1, 1).add(0, 0, 0), 5, 130);
     }
 
@@ -166,6 +157,6 @@ public final class ReadPcxTest {
         Check.told("1 bit", PCX, head(0, 1, 2, 4, 2, 1).add(200, 0).file(), 1, 2, 4);
         Check.told("4 bits", PCX, head(0, 4, 1, 2, 2, 1).add(194, 0).file(), 4, 1, 2);
         Check.told("8 bits", PCX, head(5, 8, 3, 2, 2, 1).add(198, 0).file(), 8, 3, 2);
-        Check.told("a table", PCX, withTable(head(5, 8, 1, 6, 2, 1).add(198, 0)).file(), 8, 1, 6);
+        Check.told("a table", PCX, tabled(head(5, 8, 1, 6, 2, 1).add(198, 0)).file(), 8, 1, 6);
     }
 }

@@ -17,7 +17,7 @@ public final class ReadPnmTest {
     }
 
     private static int gray(int v) {
-        return v * 0x01010100 + 255;
+        return MadeFiles.gray(v);
     }
 
     private static void taken(String text, int width, int... pixels) {

@@ -14,7 +14,7 @@ public final class ReadQoiTest {
     }
 
     private static Bytes head(int width, int height) {
-        return new Bytes().text("qoif").high4(width, height).add(4, 0);
+        return MadeFiles.qoi(width, height, 4);
     }
 
     private static byte[] file(int width, int height, int... chunks) {

@@ -14,11 +14,11 @@ public final class ReadTgaTest {
     }
 
     private static Bytes head(int type, int width, int height, int bits, int flags) {
-        return new Bytes().add(0, 0, type).low2(0, 0).add(0).low2(3, 4, width, height).add(bits, flags);
+        return MadeFiles.tga(type, width, height, bits, flags);
     }
 
     private static Bytes mapped(int type, int from, int many, int deep, int width, int flags) {
-        return new Bytes().add(0, 1, type).low2(from, many).add(deep).low2(3, 4, width, 1).add(8, flags);
+        return MadeFiles.tgaMapped(type, from, many, deep, width, flags);
     }
 
     private static void taken(String name, Bytes file, int width, int... pixels) {
